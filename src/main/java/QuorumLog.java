@@ -74,13 +74,7 @@ public final class QuorumLog {
 
     public int put(int server, int key, int value)
             throws IllegalArgumentException, IllegalStateException, UnsupportedOperationException {
-        if (!isServer(server) || !isKey(key)) {
-            throw new IllegalArgumentException("no such server or key");
-        }
-        Server one = servers[server];
-        if (!one.leads()) {
-            throw new IllegalStateException("down or no leader");
-        }
+        Server one = leaderFor(server, key);
         if (one.log.count >= LOG_TOO_LONG_TO_ADD) {
             throw new UnsupportedOperationException("the log is too long");
         }
@@ -111,13 +105,7 @@ public final class QuorumLog {
 
     public int read(int server, int key)
             throws IllegalArgumentException, IllegalStateException, UnsupportedOperationException {
-        if (!isServer(server) || !isKey(key)) {
-            throw new IllegalArgumentException("no such server or key");
-        }
-        Server one = servers[server];
-        if (!one.leads()) {
-            throw new IllegalStateException("down or no leader");
-        }
+        Server one = leaderFor(server, key);
         if (reads.keptBy(server) >= READS_KEPT || reads.count >= READS_IN_ALL || !one.hasCommitOfItsTerm()) {
             throw new UnsupportedOperationException("too many reads, or the term is open");
         }
@@ -265,6 +253,16 @@ public final class QuorumLog {
 
     private static boolean areMost(int some, int members) {
         return 2 * Integer.bitCount(some & members) > Integer.bitCount(members);
+    }
+
+    private Server leaderFor(int server, int key) {
+        if (!isServer(server) || !isKey(key)) {
+            throw new IllegalArgumentException("no such server or key");
+        }
+        if (!servers[server].leads()) {
+            throw new IllegalStateException("down or no leader");
+        }
+        return servers[server];
     }
 
     private void askAll(Server one, int kind, int term) {

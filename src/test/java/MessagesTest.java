@@ -723,6 +723,179 @@ public final class MessagesTest {
         checks.same("value", x.value(read), 2);
     }
 
+    private void lateAnswers() {
+        QuorumLog x = new QuorumLog(7);
+        x.timer(0);
+        pass(x, 0, 0, 1);
+        pass(x, 0, 0, 2);
+        pass(x, 1, 1, 0);
+        checks.states("stands", x, 0, 2, 1, 0);
+        x.timer(0);
+        pass(x, 1, 2, 0);
+        checks.states("a yes for term 1 does not count for term 2", x, 0, 1, 1, 0);
+        Checks.loseAll(x);
+        x.timer(0);
+        pass(x, 0, 0, 1);
+        x.timer(0);
+        pass(x, 1, 1, 0);
+        checks.states("one that came late, for the same term, does", x, 0, 2, 2, 0);
+    }
+
+    private void appendsEndStanding() {
+        QuorumLog x = new QuorumLog(31);
+        for (int one = 0; one < 2; one++) {
+            x.timer(one);
+            pass(x, 0, one, 2);
+            pass(x, 0, one, 3);
+            pass(x, 1, 2, one);
+            pass(x, 1, 3, one);
+        }
+        pass(x, 2, 0, 2);
+        pass(x, 2, 0, 3);
+        pass(x, 3, 2, 0);
+        pass(x, 3, 3, 0);
+        checks.states("both stood, 0 leads", x, 0, 3, 1, 0);
+        checks.states("1 stands", x, 1, 2, 1, 1);
+        pass(x, 4, 0, 1);
+        checks.states("and follows", x, 1, 0, 1, 1, 0, 0, 1, 31, 1, 1);
+        pass(x, 4, 0, 2);
+        x.timer(2);
+        checks.states("2 asks", x, 2, 1, 1, 0);
+        x.beat(0);
+        pass(x, 4, 0, 2);
+        checks.states("and follows", x, 2, 0, 1, 0, 0, 0, 1, 31, 1, 1);
+        Checks.loseAll(x);
+        x.beat(0);
+        pass(x, 4, 0, 1);
+        pass(x, 4, 0, 2);
+        pass(x, 5, 1, 0);
+        pass(x, 5, 2, 0);
+        x.compact(0);
+        x.timer(3);
+        checks.states("3 asks", x, 3, 1, 1, 0);
+        x.lose(find(x, 4, 0, 3));
+        x.beat(0);
+        pass(x, 6, 0, 3);
+        checks.states("and follows", x, 3, 0, 1, 0, 1, 1, 1, 31, 1, 1);
+    }
+
+    private void firstEntryIsCutAway() {
+        QuorumLog x = new QuorumLog(7);
+        elect(x, 0, 1);
+        checks.states("0 leads", x, 0, 3, 1, 0, 0, 0, 1);
+        elect(x, 1, 2);
+        checks.states("1 leads in term 2", x, 1, 3, 2, 1, 0, 0, 1);
+        x.beat(1);
+        pass(x, 4, 1, 0);
+        checks.states("0 follows", x, 0, 0, 2, -1, 0, 0, 1, 7, 1, 1);
+        checks.same("the entry of term 2", x.entry(0, 1, 0), 2);
+    }
+
+    private void installAtCommit() {
+        QuorumLog x = Checks.led(7, 0);
+        x.put(0, 0, 1);
+        pass(x, 4, 0, 2);
+        pass(x, 4, 0, 1);
+        x.lose(find(x, 5, 2, 0));
+        pass(x, 5, 1, 0);
+        x.beat(0);
+        pass(x, 4, 0, 2);
+        Checks.loseAll(x);
+        checks.states("2 has COMMIT 2", x, 2, 0, 1, 0, 2, 0, 2);
+        x.compact(0);
+        x.beat(0);
+        pass(x, 6, 0, 2);
+        checks.states("its own snapshot stays", x, 2, 0, 1, 0, 2, 0, 2, 7, 1, 1);
+        lastMessage("yes in any case", x, 5, 2, 0, 1, 2, 1, 0);
+    }
+
+    private void resultsOfOldTerms() {
+        QuorumLog x = Checks.led(7, 0);
+        x.put(0, 0, 1);
+        x.put(0, 0, 2);
+        pass(x, 4, 0, 1);
+        pass(x, 4, 0, 1);
+        Checks.loseTo(x, 2);
+        checks.same("two results", x.waiting(), 2);
+        x.crash(0);
+        x.restart(0);
+        pass(x, 5, 1, 0);
+        checks.states("one that led in this term", x, 0, 0, 1, 0, 0, 0, 3, 7, 0, 1);
+        checks.same("sends nothing", x.waiting(), 1);
+        x.crash(2);
+        x.restart(2);
+        x.timer(0);
+        pass(x, 0, 0, 2);
+        pass(x, 1, 2, 0);
+        pass(x, 2, 0, 2);
+        pass(x, 3, 2, 0);
+        checks.states("0 leads in term 2", x, 0, 3, 2, 0, 0, 0, 4);
+        int waiting = x.waiting();
+        pass(x, 5, 1, 0);
+        checks.same("a result of term 1 does nothing", x.waiting(), waiting - 1);
+    }
+
+    /** What a leader knew when it led before is nothing to it when it leads again. */
+    private void leadsAgain() {
+        QuorumLog x = Checks.led(31, 0);
+        x.read(0, 0);
+        x.read(0, 0);
+        Checks.deliverAll(x);
+        checks.same("answered", x.outcome(1), 1);
+        for (int value = 2; value < 5; value++) {
+            x.put(0, 0, value);
+        }
+        pass(x, 4, 0, 1);
+        pass(x, 5, 1, 0);
+        x.lose(find(x, 4, 0, 1));
+        x.lose(find(x, 4, 0, 1));
+        pass(x, 4, 0, 1);
+        pass(x, 5, 1, 0);
+        checks.states("0 and 1 have 4", x, 0, 3, 1, 0, 1, 0, 4);
+        checks.same("1 has 4", x.state(1, 5), 4);
+        Checks.loseAll(x);
+        for (int other = 2; other < 5; other++) {
+            x.crash(other);
+            x.restart(other);
+        }
+        electByTwo(x, 2, 3, 4);
+        pass(x, 4, 2, 0);
+        checks.states("0 is cut away behind 1", x, 0, 0, 2, -1, 1, 0, 2);
+        Checks.loseAll(x);
+        electByTwo(x, 0, 3, 4);
+        checks.states("0 leads again", x, 0, 3, 3, 0, 1, 0, 3);
+        pass(x, 4, 0, 3);
+        lastMessage("3 has but 1", x, 5, 3, 0, 3, 1, 0, 0);
+        pass(x, 5, 3, 0);
+        pass(x, 4, 0, 3);
+        pass(x, 5, 3, 0);
+        checks.same("two of five have 3", x.state(0, 3), 1);
+        pass(x, 4, 0, 4);
+        pass(x, 5, 4, 0);
+        pass(x, 4, 0, 4);
+        pass(x, 5, 4, 0);
+        checks.same("three of five", x.state(0, 3), 3);
+        Checks.loseAll(x);
+        int read = x.read(0, 0);
+        checks.messages("rounds begin anew", x, 0, 4, 0, 1, 3, 2, 1, 1);
+        checks.same("nobody has confirmed it", x.outcome(read), 0);
+        Checks.deliverAll(x);
+        checks.same("they have", x.outcome(read), 1);
+    }
+
+    private void electByTwo(QuorumLog x, int one, int second, int third) {
+        x.timer(one);
+        pass(x, 0, one, second);
+        pass(x, 0, one, third);
+        pass(x, 1, second, one);
+        pass(x, 1, third, one);
+        pass(x, 2, one, second);
+        pass(x, 2, one, third);
+        pass(x, 3, second, one);
+        pass(x, 3, third, one);
+        checks.same("elected", x.state(one, 0), 3);
+    }
+
     public static void main(String[] args) {
         Checks checks = new Checks("MessagesTest");
         MessagesTest test = new MessagesTest(checks);
@@ -745,6 +918,12 @@ public final class MessagesTest {
         test.readsThatFail();
         test.lateResultsConfirm();
         test.refusalsConfirm();
+        test.lateAnswers();
+        test.appendsEndStanding();
+        test.firstEntryIsCutAway();
+        test.installAtCommit();
+        test.resultsOfOldTerms();
+        test.leadsAgain();
         checks.end();
     }
 }
