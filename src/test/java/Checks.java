@@ -1,7 +1,21 @@
 /** What the tests share: counting wrong answers, and runs of calls that many of them begin with. */
 final class Checks {
+    static final Class<IllegalArgumentException> ARGUMENT = IllegalArgumentException.class;
+    static final Class<IllegalStateException> STATE = IllegalStateException.class;
+    static final Class<UnsupportedOperationException> UNSUPPORTED = UnsupportedOperationException.class;
+
     interface Call {
         long make();
+    }
+
+    /** Makes a new object and brings it somewhere, the same way every time. */
+    interface Maker {
+        QuorumLog make();
+    }
+
+    /** A call on an object: its answer. */
+    interface Use {
+        Object on(QuorumLog x);
     }
 
     private final String name;
@@ -12,7 +26,11 @@ final class Checks {
     }
 
     void same(String what, long got, long due) {
-        if (got != due) {
+        sameText(what, Long.toString(got), Long.toString(due));
+    }
+
+    private void sameText(String what, String got, String due) {
+        if (!got.equals(due)) {
             wrong++;
             System.out.println(name + ": " + what + " answered " + got + ", due is " + due);
         }
@@ -27,23 +45,28 @@ final class Checks {
     }
 
     void throwing(String what, Class<? extends RuntimeException> due, Call call) {
-        String got = "nothing";
-        try {
-            call.make();
-        } catch (RuntimeException e) {
-            got = e.getClass().getName();
-        }
-        if (!got.equals(due.getName())) {
-            wrong++;
-            System.out.println(name + ": " + what + " threw " + got + ", due is " + due.getName());
+        sameText(what, answer(null, x -> call.make()), due.getSimpleName());
+    }
+
+    /** The call answers what is due, or throws it if it is a class, and leaves all as it was. */
+    void refused(String what, Object due, Maker maker, Use call) {
+        String told = due instanceof Class<?> thrown ? thrown.getSimpleName() : due.toString();
+        sameText(what, answer(maker.make(), call), told);
+        // A fresh object for each look, as one is good for 512 calls only.
+        for (int part = 0; part < Looks.PARTS; part++) {
+            QuorumLog called = maker.make();
+            answer(called, call);
+            sameText(what + ", looked at behind it (" + part + "),",
+                    Looks.look(called, part), Looks.look(maker.make(), part));
         }
     }
 
-    /** The call throws what is due and leaves all that can be seen as it was. */
-    void refuses(String what, Class<? extends RuntimeException> due, QuorumLog x, Call call) {
-        String before = seen(x);
-        throwing(what, due, call);
-        yes(what + " leaves all as it was", before.equals(seen(x)));
+    static String answer(QuorumLog x, Use call) {
+        try {
+            return String.valueOf(call.on(x));
+        } catch (RuntimeException e) {
+            return e.getClass().getSimpleName();
+        }
     }
 
     /** Roles, terms, .. as state tells them for what = 0 .. 8, in that order. */
@@ -60,6 +83,17 @@ final class Checks {
         }
     }
 
+    void lastMessage(String when, QuorumLog x, int... due) {
+        messages(when, x, x.waiting() - 1, due);
+    }
+
+    /** Term, sort, .. as entry tells them for what = 0 .. 3, in that order. */
+    void entries(String when, QuorumLog x, int server, int index, int... due) {
+        for (int what = 0; what < due.length; what++) {
+            same(when + ": entry(" + server + ", " + index + ", " + what + ")", x.entry(server, index, what), due[what]);
+        }
+    }
+
     void end() {
         System.out.println(name + ": " + (wrong == 0 ? "all answers are as due" : wrong + " answers are not as due"));
         if (wrong != 0) {
@@ -67,30 +101,46 @@ final class Checks {
         }
     }
 
-    static String seen(QuorumLog x) {
-        StringBuilder all = new StringBuilder();
-        for (int server = 0; server < 5; server++) {
-            for (int what = 0; what < 9; what++) {
-                all.append(x.state(server, what)).append(' ');
-            }
-            for (int index = x.state(server, 4); index <= x.state(server, 5); index++) {
-                for (int what = 0; what < 4; what++) {
-                    all.append(x.entry(server, index, what)).append(' ');
-                }
-            }
-            for (int key = 0; key < 4; key++) {
-                all.append(x.stored(server, key)).append(' ');
+    static int find(QuorumLog x, int kind, int from, int to) {
+        int waiting = x.waiting();
+        for (int k = 0; k < waiting; k++) {
+            if (x.message(k, 0) == kind && x.message(k, 1) == from && x.message(k, 2) == to) {
+                return k;
             }
         }
-        for (int k = 0; k < x.waiting(); k++) {
-            for (int what = 0; what < 7; what++) {
-                all.append(x.message(k, what)).append(' ');
-            }
+        return -1;
+    }
+
+    /** Delivers the first waiting message of a kind from one server to another. */
+    void pass(QuorumLog x, int kind, int from, int to) {
+        same("pass " + kind + " from " + from + " to " + to, x.deliver(find(x, kind, from, to)), kind);
+    }
+
+    /** An APPEND of a leader comes to another one, and its RESULT back. */
+    void copy(QuorumLog x, int leader, int other) {
+        pass(x, 4, leader, other);
+        pass(x, 5, other, leader);
+    }
+
+    /** One asks, and stands by the yes of some; their calls wait. */
+    void stand(QuorumLog x, int one, int... others) {
+        x.timer(one);
+        for (int other : others) {
+            pass(x, 0, one, other);
+            pass(x, 1, other, one);
         }
-        for (int read = 0; x.outcome(read) >= 0; read++) {
-            all.append(x.outcome(read)).append(' ').append(x.value(read)).append(' ');
-        }
-        return all.toString();
+        same("stands", x.state(one, 0), 2);
+    }
+
+    /** Elects one by the yes of another alone; what else it sent is lost. */
+    void elect(QuorumLog x, int one, int other) {
+        x.timer(one);
+        pass(x, 0, one, other);
+        pass(x, 1, other, one);
+        pass(x, 2, one, other);
+        pass(x, 3, other, one);
+        same("elected", x.state(one, 0), 3);
+        loseAll(x);
     }
 
     /** Delivers in order until none waits. */
@@ -121,11 +171,42 @@ final class Checks {
         }
     }
 
+    /** A crash and a restart make a server one that has not heard. */
+    static void forget(QuorumLog x, int... servers) {
+        for (int server : servers) {
+            x.crash(server);
+            x.restart(server);
+        }
+    }
+
     /** A new object whose first leader is elected, has its NOTHING on all servers, and no message waits. */
     static QuorumLog led(int members, int leader) {
         QuorumLog x = new QuorumLog(members);
         x.timer(leader);
         deliverAll(x);
+        return x;
+    }
+
+    /** Server 0 leads and is the only member; it has so many entries, all of which count. */
+    static QuorumLog alone(int entries) {
+        QuorumLog x = new QuorumLog(1);
+        x.timer(0);
+        for (int index = 2; index <= entries; index++) {
+            x.put(0, index % 4, index);
+        }
+        return x;
+    }
+
+    /** Leader 0 of two cuts its log, server 1 does not: server 1 has entries 1 .. last, and all but the last count. */
+    static QuorumLog longLog(int last) {
+        QuorumLog x = led(3, 0);
+        for (int index = 2; index <= last; index++) {
+            if ((index - 1) % 24 == 0) {
+                x.compact(0);
+            }
+            x.put(0, index % 4, index);
+            deliver(x, 2);
+        }
         return x;
     }
 }

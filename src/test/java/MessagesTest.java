@@ -6,57 +6,28 @@ public final class MessagesTest {
         this.checks = checks;
     }
 
-    private static int find(QuorumLog x, int kind, int from, int to) {
-        for (int k = 0; k < x.waiting(); k++) {
-            if (x.message(k, 0) == kind && x.message(k, 1) == from && x.message(k, 2) == to) {
-                return k;
-            }
-        }
-        return -1;
-    }
-
-    /** Delivers the first waiting message of a kind from one server to another. */
-    private void pass(QuorumLog x, int kind, int from, int to) {
-        checks.same("pass " + kind + " from " + from + " to " + to, x.deliver(find(x, kind, from, to)), kind);
-    }
-
-    private void lastMessage(String when, QuorumLog x, int... due) {
-        checks.messages(when, x, x.waiting() - 1, due);
-    }
-
-    /** Elects one by the yes of another alone; what else it sent is lost. */
-    private void elect(QuorumLog x, int one, int other) {
-        x.timer(one);
-        pass(x, 0, one, other);
-        pass(x, 1, other, one);
-        pass(x, 2, one, other);
-        pass(x, 3, other, one);
-        checks.same("elected", x.state(one, 0), 3);
-        Checks.loseAll(x);
-    }
-
     private void questions() {
         QuorumLog x = new QuorumLog(7);
         x.timer(0);
-        pass(x, 0, 0, 1);
-        lastMessage("yes, with that term", x, 1, 1, 0, 1, 0, 1, 0);
+        checks.pass(x, 0, 0, 1);
+        checks.lastMessage("yes, with that term", x, 1, 1, 0, 1, 0, 1, 0);
         checks.states("asked, it keeps all", x, 1, 0, 0, -1, 0, 0, 0, 7, 0, 1);
-        pass(x, 1, 1, 0);
-        pass(x, 2, 0, 2);
+        checks.pass(x, 1, 1, 0);
+        checks.pass(x, 2, 0, 2);
         checks.states("2 has come to term 1", x, 2, 0, 1, 0);
-        pass(x, 0, 0, 2);
-        lastMessage("its own term: no", x, 1, 2, 0, 1, 0, 0, 0);
+        checks.pass(x, 0, 0, 2);
+        checks.lastMessage("its own term: no", x, 1, 2, 0, 1, 0, 0, 0);
 
         QuorumLog y = Checks.led(7, 0);
         y.timer(2);
-        pass(y, 0, 2, 1);
-        lastMessage("1 has heard: no, with its own term", y, 1, 1, 2, 1, 0, 0, 0);
-        pass(y, 0, 2, 0);
-        lastMessage("the leader has not heard: yes", y, 1, 0, 2, 2, 0, 1, 0);
+        checks.pass(y, 0, 2, 1);
+        checks.lastMessage("1 has heard: no, with its own term", y, 1, 1, 2, 1, 0, 0, 0);
+        checks.pass(y, 0, 2, 0);
+        checks.lastMessage("the leader has not heard: yes", y, 1, 0, 2, 2, 0, 1, 0);
         checks.states("and leads on", y, 0, 3, 1, 0);
-        pass(y, 1, 1, 2);
+        checks.pass(y, 1, 1, 2);
         checks.states("a no of its term does nothing", y, 2, 1, 1, 0);
-        pass(y, 1, 0, 2);
+        checks.pass(y, 1, 0, 2);
         checks.states("two of three", y, 2, 2, 2, 2);
         checks.messages("calls", y, 0, 2, 2, 0, 2, 1, 0, 0);
         checks.messages("calls", y, 1, 2, 2, 1, 2, 1, 0, 0);
@@ -65,36 +36,36 @@ public final class MessagesTest {
     private void questionsOfOldLogs() {
         QuorumLog x = Checks.led(7, 0);
         x.put(0, 0, 1);
-        pass(x, 4, 0, 1);
+        checks.pass(x, 4, 0, 1);
         Checks.loseAll(x);
         x.crash(1);
         x.restart(1);
         x.timer(2);
-        pass(x, 0, 2, 1);
-        lastMessage("a shorter log: no", x, 1, 1, 2, 1, 0, 0, 0);
+        checks.pass(x, 0, 2, 1);
+        checks.lastMessage("a shorter log: no", x, 1, 1, 2, 1, 0, 0, 0);
         Checks.loseAll(x);
         x.timer(1);
-        pass(x, 0, 1, 0);
-        lastMessage("an equal log: yes", x, 1, 0, 1, 2, 0, 1, 0);
+        checks.pass(x, 0, 1, 0);
+        checks.lastMessage("an equal log: yes", x, 1, 0, 1, 2, 0, 1, 0);
         Checks.loseAll(x);
         x.crash(2);
         x.restart(2);
         x.timer(1);
-        pass(x, 0, 1, 2);
-        lastMessage("a longer log: yes", x, 1, 2, 1, 2, 0, 1, 0);
+        checks.pass(x, 0, 1, 2);
+        checks.lastMessage("a longer log: yes", x, 1, 2, 1, 2, 0, 1, 0);
 
         QuorumLog y = withFourOfTermOne();
         y.crash(2);
         y.restart(2);
         y.timer(0);
         checks.messages("four entries of term 1", y, 1, 0, 0, 2, 3, 4, 0, 0);
-        pass(y, 0, 0, 2);
-        lastMessage("a longer log of an older term: no", y, 1, 2, 0, 2, 0, 0, 0);
+        checks.pass(y, 0, 0, 2);
+        checks.lastMessage("a longer log of an older term: no", y, 1, 2, 0, 2, 0, 0, 0);
         Checks.loseAll(y);
         y.timer(2);
         y.timer(2);
-        pass(y, 0, 2, 0);
-        lastMessage("a shorter log of a later term: yes", y, 1, 0, 2, 3, 0, 1, 0);
+        checks.pass(y, 0, 2, 0);
+        checks.lastMessage("a shorter log of a later term: yes", y, 1, 0, 2, 3, 0, 1, 0);
     }
 
     /** Server 0 has the entries 1 .. 4 of term 1; 1 leads in term 2, and its 2 of term 2 is on 2, not on 0. */
@@ -107,17 +78,17 @@ public final class MessagesTest {
         x.crash(2);
         x.restart(2);
         x.timer(1);
-        pass(x, 0, 1, 2);
-        pass(x, 1, 2, 1);
-        pass(x, 2, 1, 0);
-        lastMessage("0 has more: no, in the new term", x, 3, 0, 1, 2, 0, 0, 0);
+        checks.pass(x, 0, 1, 2);
+        checks.pass(x, 1, 2, 1);
+        checks.pass(x, 2, 1, 0);
+        checks.lastMessage("0 has more: no, in the new term", x, 3, 0, 1, 2, 0, 0, 0);
         checks.states("0 leads no more", x, 0, 0, 2, -1, 1, 0, 4);
-        pass(x, 2, 1, 2);
-        pass(x, 3, 0, 1);
+        checks.pass(x, 2, 1, 2);
+        checks.pass(x, 3, 0, 1);
         checks.same("a no does not count", x.state(1, 0), 2);
-        pass(x, 3, 2, 1);
+        checks.pass(x, 3, 2, 1);
         checks.states("1 leads", x, 1, 3, 2, 1, 0, 0, 2);
-        pass(x, 4, 1, 2);
+        checks.pass(x, 4, 1, 2);
         Checks.loseAll(x);
         return x;
     }
@@ -126,63 +97,63 @@ public final class MessagesTest {
         QuorumLog x = new QuorumLog(31);
         x.timer(0);
         for (int other = 1; other < 5; other++) {
-            pass(x, 0, 0, other);
+            checks.pass(x, 0, 0, other);
         }
-        pass(x, 1, 1, 0);
+        checks.pass(x, 1, 1, 0);
         checks.same("two of five", x.state(0, 0), 1);
-        pass(x, 1, 2, 0);
+        checks.pass(x, 1, 2, 0);
         checks.states("three of five", x, 0, 2, 1, 0);
-        pass(x, 1, 3, 0);
-        pass(x, 1, 4, 0);
+        checks.pass(x, 1, 3, 0);
+        checks.pass(x, 1, 4, 0);
         checks.states("an answer is no vote", x, 0, 2, 1, 0);
-        pass(x, 2, 0, 1);
-        pass(x, 2, 0, 2);
-        pass(x, 3, 1, 0);
+        checks.pass(x, 2, 0, 1);
+        checks.pass(x, 2, 0, 2);
+        checks.pass(x, 3, 1, 0);
         checks.same("two votes of five", x.state(0, 0), 2);
-        pass(x, 3, 2, 0);
+        checks.pass(x, 3, 2, 0);
         checks.same("three votes of five", x.state(0, 0), 3);
 
         QuorumLog y = new QuorumLog(7);
         y.timer(0);
         y.timer(1);
-        pass(y, 0, 1, 2);
-        pass(y, 1, 2, 1);
+        checks.pass(y, 0, 1, 2);
+        checks.pass(y, 1, 2, 1);
         checks.states("1 stands", y, 1, 2, 1, 1);
-        pass(y, 0, 0, 1);
-        lastMessage("no, with term 1", y, 1, 1, 0, 1, 0, 0, 0);
-        pass(y, 1, 1, 0);
+        checks.pass(y, 0, 0, 1);
+        checks.lastMessage("no, with term 1", y, 1, 1, 0, 1, 0, 0, 0);
+        checks.pass(y, 1, 1, 0);
         checks.states("0 comes to term 1", y, 0, 0, 1, -1, 0, 0, 0, 7, 0, 1);
-        pass(y, 0, 0, 2);
-        pass(y, 1, 2, 0);
+        checks.pass(y, 0, 0, 2);
+        checks.pass(y, 1, 2, 0);
         checks.states("a yes to a question of before", y, 0, 0, 1, -1);
     }
 
     private void noWithGreaterTermEndsLeader() {
         QuorumLog x = new QuorumLog(7);
         x.timer(0);
-        pass(x, 0, 0, 1);
-        pass(x, 1, 1, 0);
-        pass(x, 2, 0, 1);
-        pass(x, 3, 1, 0);
-        int question = find(x, 0, 0, 2);
+        checks.pass(x, 0, 0, 1);
+        checks.pass(x, 1, 1, 0);
+        checks.pass(x, 2, 0, 1);
+        checks.pass(x, 3, 1, 0);
+        int question = Checks.find(x, 0, 0, 2);
         checks.yes("the question to 2 waits still", question >= 0);
-        pass(x, 4, 0, 1);
-        pass(x, 5, 1, 0);
+        checks.pass(x, 4, 0, 1);
+        checks.pass(x, 5, 1, 0);
         int read = x.read(0, 0);
         x.crash(1);
         x.restart(1);
         x.timer(1);
-        pass(x, 2, 0, 2);
-        pass(x, 0, 1, 2);
-        lastMessage("2 has less: yes", x, 1, 2, 1, 2, 0, 1, 0);
-        pass(x, 1, 2, 1);
-        pass(x, 2, 1, 2);
+        checks.pass(x, 2, 0, 2);
+        checks.pass(x, 0, 1, 2);
+        checks.lastMessage("2 has less: yes", x, 1, 2, 1, 2, 0, 1, 0);
+        checks.pass(x, 1, 2, 1);
+        checks.pass(x, 2, 1, 2);
         checks.states("2 is in term 2", x, 2, 0, 2, 1);
-        pass(x, 0, 0, 2);
-        lastMessage("no, with term 2", x, 1, 2, 0, 2, 0, 0, 0);
+        checks.pass(x, 0, 0, 2);
+        checks.lastMessage("no, with term 2", x, 1, 2, 0, 2, 0, 0, 0);
         checks.states("0 leads", x, 0, 3, 1, 0);
         checks.same("its read is kept", x.outcome(read), 0);
-        pass(x, 1, 2, 0);
+        checks.pass(x, 1, 2, 0);
         checks.states("and does not any more", x, 0, 0, 2, -1);
         checks.same("its read failed", x.outcome(read), 2);
     }
@@ -192,20 +163,20 @@ public final class MessagesTest {
         x.timer(0);
         x.timer(1);
         for (int one = 0; one < 2; one++) {
-            pass(x, 0, one, 2);
-            pass(x, 0, one, 3);
-            pass(x, 1, 2, one);
-            pass(x, 1, 3, one);
+            checks.pass(x, 0, one, 2);
+            checks.pass(x, 0, one, 3);
+            checks.pass(x, 1, 2, one);
+            checks.pass(x, 1, 3, one);
             checks.states("stands", x, one, 2, 1, one);
         }
-        pass(x, 2, 0, 4);
-        lastMessage("yes", x, 3, 4, 0, 1, 0, 1, 0);
+        checks.pass(x, 2, 0, 4);
+        checks.lastMessage("yes", x, 3, 4, 0, 1, 0, 1, 0);
         checks.states("voted", x, 4, 0, 1, 0, 0, 0, 0, 31, 0, 1);
-        pass(x, 2, 1, 4);
-        lastMessage("no, one vote a term", x, 3, 4, 1, 1, 0, 0, 0);
+        checks.pass(x, 2, 1, 4);
+        checks.lastMessage("no, one vote a term", x, 3, 4, 1, 1, 0, 0, 0);
         checks.same("the vote stays", x.state(4, 2), 0);
-        pass(x, 2, 1, 0);
-        lastMessage("no of a candidate", x, 3, 0, 1, 1, 0, 0, 0);
+        checks.pass(x, 2, 1, 0);
+        checks.lastMessage("no of a candidate", x, 3, 0, 1, 1, 0, 0, 0);
         checks.states("a candidate still", x, 0, 2, 1, 0);
         x.crash(4);
         x.restart(4);
@@ -213,131 +184,131 @@ public final class MessagesTest {
 
         QuorumLog y = new QuorumLog(7);
         y.timer(0);
-        pass(y, 0, 0, 1);
-        pass(y, 1, 1, 0);
+        checks.pass(y, 0, 0, 1);
+        checks.pass(y, 1, 1, 0);
         y.crash(1);
         y.restart(1);
         y.timer(1);
-        pass(y, 2, 0, 1);
+        checks.pass(y, 2, 0, 1);
         checks.states("a call ends asking", y, 1, 0, 1, 0);
-        lastMessage("yes", y, 3, 1, 0, 1, 0, 1, 0);
+        checks.lastMessage("yes", y, 3, 1, 0, 1, 0, 1, 0);
 
         QuorumLog z = Checks.led(7, 0);
         z.crash(2);
         z.restart(2);
         z.timer(1);
-        pass(z, 0, 1, 2);
-        pass(z, 1, 2, 1);
+        checks.pass(z, 0, 1, 2);
+        checks.pass(z, 1, 2, 1);
         Checks.loseTo(z, 0);
         z.timer(2);
-        pass(z, 0, 2, 0);
-        pass(z, 1, 0, 2);
+        checks.pass(z, 0, 2, 0);
+        checks.pass(z, 1, 0, 2);
         checks.states("2 stands in term 2 too", z, 2, 2, 2, 2);
         z.timer(2);
-        pass(z, 0, 2, 0);
-        pass(z, 1, 0, 2);
+        checks.pass(z, 0, 2, 0);
+        checks.pass(z, 1, 0, 2);
         checks.states("and in term 3", z, 2, 2, 3, 2);
-        pass(z, 2, 1, 2);
-        lastMessage("a call of an older term: no, with its own", z, 3, 2, 1, 3, 0, 0, 0);
-        pass(z, 3, 2, 1);
+        checks.pass(z, 2, 1, 2);
+        checks.lastMessage("a call of an older term: no, with its own", z, 3, 2, 1, 3, 0, 0, 0);
+        checks.pass(z, 3, 2, 1);
         checks.states("a vote's term moves a term", z, 1, 0, 3, -1);
-        pass(z, 2, 2, 0);
+        checks.pass(z, 2, 2, 0);
         checks.states("a leader is called to term 2", z, 0, 0, 2, 2);
-        pass(z, 3, 0, 2);
+        checks.pass(z, 3, 0, 2);
         checks.states("a vote of term 2 does not count in term 3", z, 2, 2, 3, 2);
     }
 
     private void appendsThatDoNotFit() {
         QuorumLog x = Checks.led(7, 0);
         x.put(0, 0, 1);
-        pass(x, 4, 0, 1);
-        pass(x, 5, 1, 0);
+        checks.pass(x, 4, 0, 1);
+        checks.pass(x, 5, 1, 0);
         x.put(0, 0, 2);
-        pass(x, 4, 0, 1);
-        pass(x, 5, 1, 0);
+        checks.pass(x, 4, 0, 1);
+        checks.pass(x, 5, 1, 0);
         Checks.loseAll(x);
         x.crash(0);
         for (int other = 1; other < 3; other++) {
             x.crash(other);
             x.restart(other);
         }
-        elect(x, 1, 2);
+        checks.elect(x, 1, 2);
         x.put(1, 0, 3);
         checks.states("1 leads from 5 on", x, 1, 3, 2, 1, 0, 0, 5);
         checks.messages("before is 3", x, 1, 4, 1, 2, 2, 3, 2, 0);
-        pass(x, 4, 1, 2);
-        lastMessage("2 has but 1: no, with its last index", x, 5, 2, 1, 2, 1, 0, 0);
+        checks.pass(x, 4, 1, 2);
+        checks.lastMessage("2 has but 1: no, with its last index", x, 5, 2, 1, 2, 1, 0, 0);
         checks.states("it has heard", x, 2, 0, 2, 1, 0, 0, 1, 7, 1, 1);
-        pass(x, 5, 2, 1);
-        lastMessage("from there on", x, 4, 1, 2, 2, 1, 2, 0);
-        pass(x, 4, 1, 2);
-        lastMessage("yes", x, 5, 2, 1, 2, 3, 1, 0);
-        pass(x, 5, 2, 1);
+        checks.pass(x, 5, 2, 1);
+        checks.lastMessage("from there on", x, 4, 1, 2, 2, 1, 2, 0);
+        checks.pass(x, 4, 1, 2);
+        checks.lastMessage("yes", x, 5, 2, 1, 2, 3, 1, 0);
+        checks.pass(x, 5, 2, 1);
         checks.same("entries of term 1 do not count by themselves", x.state(1, 3), 0);
-        lastMessage("the rest", x, 4, 1, 2, 2, 3, 2, 0);
-        pass(x, 4, 1, 2);
-        pass(x, 5, 2, 1);
+        checks.lastMessage("the rest", x, 4, 1, 2, 2, 3, 2, 0);
+        checks.pass(x, 4, 1, 2);
+        checks.pass(x, 5, 2, 1);
         checks.same("with one of term 2 behind them they do", x.state(1, 3), 5);
         x.restart(0);
         Checks.loseAll(x);
         x.beat(1);
-        pass(x, 4, 1, 0);
-        lastMessage("0 has the same up to 3: yes", x, 5, 0, 1, 2, 5, 1, 0);
+        checks.pass(x, 4, 1, 0);
+        checks.lastMessage("0 has the same up to 3: yes", x, 5, 0, 1, 2, 5, 1, 0);
         checks.states("and hears of COMMIT", x, 0, 0, 2, -1, 5, 0, 5, 7, 1, 1);
     }
 
     private void appendsWithAnotherTerm() {
         QuorumLog x = withFourOfTermOne();
         x.put(1, 2, 8);
-        pass(x, 4, 1, 2);
-        pass(x, 5, 2, 1);
+        checks.pass(x, 4, 1, 2);
+        checks.pass(x, 5, 2, 1);
         Checks.loseAll(x);
         x.compact(1);
         checks.states("1 leads, cut behind 3", x, 1, 3, 2, 1, 3, 3, 3);
         x.put(1, 2, 9);
-        pass(x, 4, 1, 2);
-        pass(x, 5, 2, 1);
+        checks.pass(x, 4, 1, 2);
+        checks.pass(x, 5, 2, 1);
         Checks.loseAll(x);
         x.beat(1);
         checks.messages("to 0", x, 0, 6, 1, 0, 2, 3, 0, 0);
-        pass(x, 6, 1, 0);
+        checks.pass(x, 6, 1, 0);
         checks.states("another term at 3, so all is gone", x, 0, 0, 2, -1, 3, 3, 3, 7, 1, 1);
         checks.same("the snapshot's value", x.stored(0, 2), 8);
-        lastMessage("yes, with the snapshot's index", x, 5, 0, 1, 2, 3, 1, 0);
+        checks.lastMessage("yes, with the snapshot's index", x, 5, 0, 1, 2, 3, 1, 0);
 
         QuorumLog y = withFourOfTermOne();
         y.beat(1);
         checks.messages("to 0, before is 1", y, 0, 4, 1, 0, 2, 1, 1, 0);
-        pass(y, 4, 1, 0);
+        checks.pass(y, 4, 1, 0);
         checks.states("cut away from 2 on", y, 0, 0, 2, -1, 1, 0, 2, 7, 1, 1);
         checks.same("term 2 there", y.entry(0, 2, 0), 2);
         checks.same("gone", y.entry(0, 3, 0), -1);
-        lastMessage("yes", y, 5, 0, 1, 2, 2, 1, 0);
+        checks.lastMessage("yes", y, 5, 0, 1, 2, 2, 1, 0);
 
         QuorumLog z = withFourOfTermOne();
         z.put(1, 0, 5);
-        pass(z, 4, 1, 2);
-        pass(z, 5, 2, 1);
+        checks.pass(z, 4, 1, 2);
+        checks.pass(z, 5, 2, 1);
         Checks.loseAll(z);
         z.crash(1);
         z.crash(2);
         z.restart(2);
         z.timer(2);
-        pass(z, 0, 2, 0);
-        pass(z, 1, 0, 2);
-        pass(z, 2, 2, 0);
-        pass(z, 3, 0, 2);
+        checks.pass(z, 0, 2, 0);
+        checks.pass(z, 1, 0, 2);
+        checks.pass(z, 2, 2, 0);
+        checks.pass(z, 3, 0, 2);
         checks.states("2 leads in term 3", z, 2, 3, 3, 2, 0, 0, 4);
-        pass(z, 4, 2, 0);
-        lastMessage("0 has term 1 at 3: no, with 2", z, 5, 0, 2, 3, 2, 0, 0);
+        checks.pass(z, 4, 2, 0);
+        checks.lastMessage("0 has term 1 at 3: no, with 2", z, 5, 0, 2, 3, 2, 0, 0);
         checks.states("its log stays", z, 0, 0, 3, 2, 1, 0, 4, 7, 1, 1);
-        pass(z, 5, 0, 2);
-        lastMessage("from 3 on", z, 4, 2, 0, 3, 2, 2, 0);
-        pass(z, 4, 2, 0);
-        lastMessage("term 1 at 2, too: no, with 1", z, 5, 0, 2, 3, 1, 0, 0);
-        pass(z, 5, 0, 2);
-        pass(z, 4, 2, 0);
-        lastMessage("yes", z, 5, 0, 2, 3, 3, 1, 0);
+        checks.pass(z, 5, 0, 2);
+        checks.lastMessage("from 3 on", z, 4, 2, 0, 3, 2, 2, 0);
+        checks.pass(z, 4, 2, 0);
+        checks.lastMessage("term 1 at 2, too: no, with 1", z, 5, 0, 2, 3, 1, 0, 0);
+        checks.pass(z, 5, 0, 2);
+        checks.pass(z, 4, 2, 0);
+        checks.lastMessage("yes", z, 5, 0, 2, 3, 3, 1, 0);
         checks.same("the same at 2", z.entry(0, 2, 0), 2);
         checks.same("cut away", z.entry(0, 4, 0), -1);
     }
@@ -349,22 +320,22 @@ public final class MessagesTest {
         x.crash(1);
         x.restart(1);
         x.timer(1);
-        checks.yes("0 is asked", find(x, 0, 1, 0) >= 0);
-        pass(x, 0, 1, 0);
-        pass(x, 1, 0, 1);
-        pass(x, 2, 1, 2);
+        checks.yes("0 is asked", Checks.find(x, 0, 1, 0) >= 0);
+        checks.pass(x, 0, 1, 0);
+        checks.pass(x, 1, 0, 1);
+        checks.pass(x, 2, 1, 2);
         checks.states("2 is in term 2, unheard of by 0", x, 2, 0, 2, 1);
-        pass(x, 4, 0, 2);
-        lastMessage("no, index 0, round 0, its own term", x, 5, 2, 0, 2, 0, 0, 0);
+        checks.pass(x, 4, 0, 2);
+        checks.lastMessage("no, index 0, round 0, its own term", x, 5, 2, 0, 2, 0, 0, 0);
         checks.states("it does not hear it", x, 2, 0, 2, 1, 0, 0, 1);
-        pass(x, 5, 2, 0);
+        checks.pass(x, 5, 2, 0);
         checks.states("0 comes to term 2", x, 0, 0, 2, -1);
         checks.same("its read failed", x.outcome(0), 2);
 
         QuorumLog y = Checks.led(7, 0);
         y.compact(0);
         y.change(0, 3, true);
-        int install = find(y, 6, 0, 3);
+        int install = Checks.find(y, 6, 0, 3);
         checks.yes("an install waits", install >= 0);
         Checks.loseTo(y, 1);
         Checks.loseTo(y, 2);
@@ -375,26 +346,26 @@ public final class MessagesTest {
         y.restart(2);
         elect1AndKeep(y);
         y.change(1, 3, true);
-        int append = find(y, 4, 1, 3);
+        int append = Checks.find(y, 4, 1, 3);
         y.deliver(append);
         checks.same("3 is in term 2", y.state(3, 1), 2);
         Checks.loseTo(y, 1);
         y.crash(3);
         y.restart(3);
-        pass(y, 6, 0, 3);
-        lastMessage("no, index 0, round 0, its own term", y, 5, 3, 0, 2, 0, 0, 0);
+        checks.pass(y, 6, 0, 3);
+        checks.lastMessage("no, index 0, round 0, its own term", y, 5, 3, 0, 2, 0, 0, 0);
         checks.states("it does not hear it", y, 3, 0, 2, -1, 0, 0, 0, 7, 0, 1);
     }
 
     /** Server 1 leads with 2, an INSTALL from 0 to 3 goes on waiting. */
     private void elect1AndKeep(QuorumLog y) {
         y.timer(1);
-        pass(y, 0, 1, 2);
-        pass(y, 1, 2, 1);
-        pass(y, 2, 1, 2);
-        pass(y, 3, 2, 1);
-        pass(y, 4, 1, 2);
-        pass(y, 5, 2, 1);
+        checks.pass(y, 0, 1, 2);
+        checks.pass(y, 1, 2, 1);
+        checks.pass(y, 2, 1, 2);
+        checks.pass(y, 3, 2, 1);
+        checks.pass(y, 4, 1, 2);
+        checks.pass(y, 5, 2, 1);
         checks.states("1 leads", y, 1, 3, 2, 1, 2);
     }
 
@@ -404,24 +375,24 @@ public final class MessagesTest {
         x.put(0, 0, 2);
         x.put(0, 0, 3);
         for (int other = 1; other < 3; other++) {
-            pass(x, 4, 0, other);
-            pass(x, 5, other, 0);
+            checks.pass(x, 4, 0, other);
+            checks.pass(x, 5, other, 0);
         }
         checks.same("COMMIT", x.state(0, 3), 2);
         Checks.loseAll(x);
         x.beat(0);
-        pass(x, 4, 0, 3);
+        checks.pass(x, 4, 0, 3);
         checks.states("three entries, COMMIT the leader's", x, 3, 0, 1, 0, 2, 0, 3);
-        pass(x, 5, 3, 0);
+        checks.pass(x, 5, 3, 0);
         x.put(0, 0, 4);
         Checks.loseTo(x, 4);
         Checks.deliverAll(x);
         checks.same("COMMIT", x.state(0, 3), 5);
         x.beat(0);
-        pass(x, 4, 0, 4);
+        checks.pass(x, 4, 0, 4);
         checks.states("COMMIT but to the message's end", x, 4, 0, 1, 0, 3, 0, 3);
-        lastMessage("yes", x, 5, 4, 0, 1, 3, 1, 0);
-        int append = find(x, 4, 0, 1);
+        checks.lastMessage("yes", x, 5, 4, 0, 1, 3, 1, 0);
+        int append = Checks.find(x, 4, 0, 1);
         x.deliver(append);
         checks.states("COMMIT to the index before, without any", x, 1, 0, 1, 0, 5, 0, 5);
     }
@@ -440,10 +411,10 @@ public final class MessagesTest {
         checks.states("all", x, 1, 0, 1, 0, 3, 0, 4);
         x.compact(1);
         x.deliver(0);
-        lastMessage("an old one: yes, with its own end", x, 5, 1, 0, 1, 2, 1, 0);
+        checks.lastMessage("an old one: yes, with its own end", x, 5, 1, 0, 1, 2, 1, 0);
         checks.states("nothing is cut away", x, 1, 0, 1, 0, 3, 3, 4, 3, 1, 1);
         x.deliver(1);
-        lastMessage("an old one up to 3", x, 5, 1, 0, 1, 3, 1, 0);
+        checks.lastMessage("an old one up to 3", x, 5, 1, 0, 1, 3, 1, 0);
         checks.states("nothing is cut away", x, 1, 0, 1, 0, 3, 3, 4, 3, 1, 1);
         Checks.deliverAll(x);
         checks.same("MATCH does not go back", x.state(0, 3), 4);
@@ -466,13 +437,13 @@ public final class MessagesTest {
         checks.messages("two entries", x, 0, 4, 0, 1, 1, 47, 2, 0);
         x.deliver(0);
         checks.states("room for one", x, 1, 0, 1, 0, 47, 0, 48);
-        lastMessage("as if it ended there", x, 5, 1, 0, 1, 48, 1, 0);
+        checks.lastMessage("as if it ended there", x, 5, 1, 0, 1, 48, 1, 0);
         x.deliver(0);
         checks.same("one more counts", x.state(0, 3), 48);
         checks.messages("the other one", x, 0, 4, 0, 1, 1, 48, 1, 0);
         x.deliver(0);
         checks.states("room for none", x, 1, 0, 1, 0, 48, 0, 48);
-        lastMessage("yes, with the index before", x, 5, 1, 0, 1, 48, 1, 0);
+        checks.lastMessage("yes, with the index before", x, 5, 1, 0, 1, 48, 1, 0);
         x.compact(1);
         x.deliver(0);
         x.deliver(0);
@@ -488,17 +459,17 @@ public final class MessagesTest {
         x.deliver(0);
         checks.same("two appends and a result", x.waiting(), 3);
         x.deliver(2);
-        lastMessage("more at once, from 3 on", x, 4, 0, 1, 1, 2, 2, 0);
+        checks.lastMessage("more at once, from 3 on", x, 4, 0, 1, 1, 2, 2, 0);
         Checks.deliverAll(x);
         checks.same("COMMIT", x.state(0, 3), 4);
         checks.same("no more to send", x.waiting(), 0);
 
         QuorumLog y = Checks.led(7, 0);
         y.put(0, 0, 1);
-        pass(y, 4, 0, 2);
+        checks.pass(y, 4, 0, 2);
         y.change(0, 2, false);
-        pass(y, 5, 2, 0);
-        checks.same("2 is no member, nothing is sent to it", find(y, 4, 0, 2), -1);
+        checks.pass(y, 5, 2, 0);
+        checks.same("2 is no member, nothing is sent to it", Checks.find(y, 4, 0, 2), -1);
         Checks.deliverAll(y);
         checks.same("COMMIT", y.state(0, 3), 3);
         checks.states("2 did not hear of its leaving", y, 2, 0, 1, 0, 1, 0, 2, 7);
@@ -525,16 +496,16 @@ public final class MessagesTest {
         checks.states("1 leads in term 2 with 6", x, 1, 3, 2, 1, 6, 4, 6);
         x.restart(4);
         x.beat(1);
-        pass(x, 4, 1, 4);
-        lastMessage("4 has 1: no", x, 5, 4, 1, 2, 1, 0, 0);
-        pass(x, 5, 4, 1);
-        lastMessage("1 is cut away, so the snapshot goes", x, 6, 1, 4, 2, 4, 0, 0);
-        pass(x, 6, 1, 4);
+        checks.pass(x, 4, 1, 4);
+        checks.lastMessage("4 has 1: no", x, 5, 4, 1, 2, 1, 0, 0);
+        checks.pass(x, 5, 4, 1);
+        checks.lastMessage("1 is cut away, so the snapshot goes", x, 6, 1, 4, 2, 4, 0, 0);
+        checks.pass(x, 6, 1, 4);
         checks.states("installed", x, 4, 0, 2, -1, 4, 4, 4, 31, 1, 1);
         checks.same("its value", x.stored(4, 0), 2);
-        pass(x, 5, 4, 1);
-        lastMessage("the rest", x, 4, 1, 4, 2, 4, 2, 0);
-        x.deliver(find(x, 4, 1, 4));
+        checks.pass(x, 5, 4, 1);
+        checks.lastMessage("the rest", x, 4, 1, 4, 2, 4, 2, 0);
+        x.deliver(Checks.find(x, 4, 1, 4));
         checks.states("all", x, 4, 0, 2, -1, 6, 4, 6, 31, 1, 1);
     }
 
@@ -549,19 +520,19 @@ public final class MessagesTest {
         Checks.deliverAll(x);
         x.crash(0);
         x.restart(2);
-        elect(x, 1, 2);
+        checks.elect(x, 1, 2);
         x.beat(1);
         x.beat(1);
-        pass(x, 4, 1, 2);
-        pass(x, 4, 1, 2);
+        checks.pass(x, 4, 1, 2);
+        checks.pass(x, 4, 1, 2);
         checks.messages("no", x, 2, 5, 2, 1, 2, 1, 0, 0);
         checks.messages("no", x, 3, 5, 2, 1, 2, 1, 0, 0);
-        pass(x, 5, 2, 1);
-        lastMessage("NEXT is 2", x, 4, 1, 2, 2, 1, 2, 0);
-        pass(x, 5, 2, 1);
-        lastMessage("NEXT is 1, one less", x, 4, 1, 2, 2, 0, 2, 0);
+        checks.pass(x, 5, 2, 1);
+        checks.lastMessage("NEXT is 2", x, 4, 1, 2, 2, 1, 2, 0);
+        checks.pass(x, 5, 2, 1);
+        checks.lastMessage("NEXT is 1, one less", x, 4, 1, 2, 2, 0, 2, 0);
         x.beat(1);
-        lastMessage("not below 1", x, 4, 1, 2, 2, 0, 2, 0);
+        checks.lastMessage("not below 1", x, 4, 1, 2, 2, 0, 2, 0);
     }
 
     private void installs() {
@@ -580,13 +551,13 @@ public final class MessagesTest {
         x.compact(0);
         x.change(0, 2, true);
         checks.messages("to 2", x, 1, 6, 0, 2, 1, 4, 0, 0);
-        pass(x, 6, 0, 2);
+        checks.pass(x, 6, 0, 2);
         checks.states("installed", x, 2, 0, 1, -1, 4, 4, 4, 3, 1, 1);
         for (int key = 0; key < 3; key++) {
             checks.same("stored(2, " + key + ")", x.stored(2, key), key + 1);
         }
-        pass(x, 5, 2, 0);
-        pass(x, 4, 0, 2);
+        checks.pass(x, 5, 2, 0);
+        checks.pass(x, 4, 0, 2);
         checks.states("behind it", x, 2, 0, 1, -1, 4, 4, 5, 7, 1, 1);
         x.timer(2);
         checks.same("a member now", x.state(2, 0), 1);
@@ -596,35 +567,35 @@ public final class MessagesTest {
         QuorumLog x = Checks.led(7, 0);
         x.put(0, 0, 1);
         x.put(0, 0, 2);
-        pass(x, 4, 0, 1);
-        pass(x, 4, 0, 2);
-        pass(x, 4, 0, 2);
-        pass(x, 5, 1, 0);
+        checks.pass(x, 4, 0, 1);
+        checks.pass(x, 4, 0, 2);
+        checks.pass(x, 4, 0, 2);
+        checks.pass(x, 5, 1, 0);
         Checks.loseAll(x);
         checks.states("2 has 3, the leader does not know", x, 2, 0, 1, 0, 1, 0, 3);
         checks.states("COMMIT is 2", x, 0, 3, 1, 0, 2, 0, 3);
         x.compact(0);
         x.beat(0);
         x.beat(0);
-        pass(x, 4, 0, 1);
-        pass(x, 5, 1, 0);
+        checks.pass(x, 4, 0, 1);
+        checks.pass(x, 5, 1, 0);
         checks.same("COMMIT is 3", x.state(0, 3), 3);
         x.compact(0);
-        pass(x, 6, 0, 2);
+        checks.pass(x, 6, 0, 2);
         checks.states("the snapshot of then; 3 stays", x, 2, 0, 1, 0, 2, 2, 3, 7, 1, 1);
         checks.same("3 stays", x.entry(2, 3, 3), 2);
         checks.same("2 is gone", x.entry(2, 2, 3), -1);
         checks.same("the snapshot's value", x.stored(2, 0), 1);
-        lastMessage("yes", x, 5, 2, 0, 1, 2, 1, 0);
+        checks.lastMessage("yes", x, 5, 2, 0, 1, 2, 1, 0);
         x.crash(2);
         x.restart(2);
-        pass(x, 6, 0, 2);
+        checks.pass(x, 6, 0, 2);
         checks.states("not above COMMIT: only heard", x, 2, 0, 1, 0, 2, 2, 3, 7, 1, 1);
-        lastMessage("yes in any case", x, 5, 2, 0, 1, 2, 1, 0);
+        checks.lastMessage("yes in any case", x, 5, 2, 0, 1, 2, 1, 0);
         Checks.loseAll(x);
         x.beat(0);
         checks.messages("the snapshot of now", x, 1, 6, 0, 2, 1, 3, 0, 0);
-        pass(x, 6, 0, 2);
+        checks.pass(x, 6, 0, 2);
         checks.states("at the end of its log", x, 2, 0, 1, 0, 3, 3, 3, 7, 1, 1);
         checks.same("the snapshot's value", x.stored(2, 0), 2);
     }
@@ -639,20 +610,20 @@ public final class MessagesTest {
             x.restart(other);
         }
         x.timer(1);
-        pass(x, 0, 1, 2);
-        pass(x, 1, 2, 1);
-        pass(x, 2, 1, 2);
-        pass(x, 3, 2, 1);
+        checks.pass(x, 0, 1, 2);
+        checks.pass(x, 1, 2, 1);
+        checks.pass(x, 2, 1, 2);
+        checks.pass(x, 3, 2, 1);
         checks.same("1 leads too", x.state(1, 0), 3);
-        pass(x, 4, 1, 2);
-        pass(x, 5, 2, 1);
+        checks.pass(x, 4, 1, 2);
+        checks.pass(x, 5, 2, 1);
         checks.same("numbers go on", x.read(1, 0), 2);
         checks.same("0 does not know", x.outcome(0), 0);
         x.beat(0);
-        pass(x, 4, 0, 2);
-        lastMessage("no", x, 5, 2, 0, 2, 0, 0, 0);
+        checks.pass(x, 4, 0, 2);
+        checks.lastMessage("no", x, 5, 2, 0, 2, 0, 0, 0);
         checks.same("kept", x.outcome(1), 0);
-        pass(x, 5, 2, 0);
+        checks.pass(x, 5, 2, 0);
         checks.same("failed", x.outcome(0), 2);
         checks.same("failed", x.outcome(1), 2);
         checks.same("the other leader's is kept", x.outcome(2), 0);
@@ -668,16 +639,16 @@ public final class MessagesTest {
         x.crash(4);
         x.put(0, 0, 4);
         x.read(0, 0);
-        x.lose(find(x, 4, 0, 1));
-        pass(x, 4, 0, 1);
-        pass(x, 5, 1, 0);
+        x.lose(Checks.find(x, 4, 0, 1));
+        checks.pass(x, 4, 0, 1);
+        checks.pass(x, 5, 1, 0);
         checks.same("two of five", x.outcome(0), 0);
-        pass(x, 4, 0, 2);
-        pass(x, 5, 2, 0);
+        checks.pass(x, 4, 0, 2);
+        checks.pass(x, 5, 2, 0);
         checks.same("2 has the PUT, so it counts; its round is 0", x.state(0, 3), 3);
         checks.same("kept", x.outcome(0), 0);
-        pass(x, 4, 0, 2);
-        pass(x, 5, 2, 0);
+        checks.pass(x, 4, 0, 2);
+        checks.pass(x, 5, 2, 0);
         checks.same("three of five", x.outcome(0), 1);
         checks.same("value", x.value(0), 4);
 
@@ -688,9 +659,9 @@ public final class MessagesTest {
         Checks.loseAll(y);
         y.compact(1);
         y.read(0, 0);
-        y.lose(find(y, 4, 0, 2));
-        pass(y, 4, 0, 1);
-        pass(y, 5, 1, 0);
+        y.lose(Checks.find(y, 4, 0, 2));
+        checks.pass(y, 4, 0, 1);
+        checks.pass(y, 5, 1, 0);
         checks.same("a result that brings the PUTs answers too", y.outcome(0), 1);
         checks.same("with them", y.value(0), 2);
     }
@@ -706,19 +677,19 @@ public final class MessagesTest {
         x.crash(1);
         x.restart(1);
         x.restart(2);
-        elect(x, 1, 2);
+        checks.elect(x, 1, 2);
         x.beat(1);
         x.restart(0);
-        pass(x, 4, 1, 0);
-        pass(x, 5, 0, 1);
+        checks.pass(x, 4, 1, 0);
+        checks.pass(x, 5, 0, 1);
         checks.states("1 and 0 have it", x, 1, 3, 2, 1, 4);
         x.crash(0);
         int read = x.read(1, 0);
-        x.lose(find(x, 4, 1, 2));
-        pass(x, 4, 1, 2);
-        lastMessage("no, but in this round", x, 5, 2, 1, 2, 1, 0, 1);
+        x.lose(Checks.find(x, 4, 1, 2));
+        checks.pass(x, 4, 1, 2);
+        checks.lastMessage("no, but in this round", x, 5, 2, 1, 2, 1, 0, 1);
         checks.same("kept", x.outcome(read), 0);
-        pass(x, 5, 2, 1);
+        checks.pass(x, 5, 2, 1);
         checks.same("a no confirms the leader as well", x.outcome(read), 1);
         checks.same("value", x.value(read), 2);
     }
@@ -726,18 +697,18 @@ public final class MessagesTest {
     private void lateAnswers() {
         QuorumLog x = new QuorumLog(7);
         x.timer(0);
-        pass(x, 0, 0, 1);
-        pass(x, 0, 0, 2);
-        pass(x, 1, 1, 0);
+        checks.pass(x, 0, 0, 1);
+        checks.pass(x, 0, 0, 2);
+        checks.pass(x, 1, 1, 0);
         checks.states("stands", x, 0, 2, 1, 0);
         x.timer(0);
-        pass(x, 1, 2, 0);
+        checks.pass(x, 1, 2, 0);
         checks.states("a yes for term 1 does not count for term 2", x, 0, 1, 1, 0);
         Checks.loseAll(x);
         x.timer(0);
-        pass(x, 0, 0, 1);
+        checks.pass(x, 0, 0, 1);
         x.timer(0);
-        pass(x, 1, 1, 0);
+        checks.pass(x, 1, 1, 0);
         checks.states("one that came late, for the same term, does", x, 0, 2, 2, 0);
     }
 
@@ -745,48 +716,48 @@ public final class MessagesTest {
         QuorumLog x = new QuorumLog(31);
         for (int one = 0; one < 2; one++) {
             x.timer(one);
-            pass(x, 0, one, 2);
-            pass(x, 0, one, 3);
-            pass(x, 1, 2, one);
-            pass(x, 1, 3, one);
+            checks.pass(x, 0, one, 2);
+            checks.pass(x, 0, one, 3);
+            checks.pass(x, 1, 2, one);
+            checks.pass(x, 1, 3, one);
         }
-        pass(x, 2, 0, 2);
-        pass(x, 2, 0, 3);
-        pass(x, 3, 2, 0);
-        pass(x, 3, 3, 0);
+        checks.pass(x, 2, 0, 2);
+        checks.pass(x, 2, 0, 3);
+        checks.pass(x, 3, 2, 0);
+        checks.pass(x, 3, 3, 0);
         checks.states("both stood, 0 leads", x, 0, 3, 1, 0);
         checks.states("1 stands", x, 1, 2, 1, 1);
-        pass(x, 4, 0, 1);
+        checks.pass(x, 4, 0, 1);
         checks.states("and follows", x, 1, 0, 1, 1, 0, 0, 1, 31, 1, 1);
-        pass(x, 4, 0, 2);
+        checks.pass(x, 4, 0, 2);
         x.timer(2);
         checks.states("2 asks", x, 2, 1, 1, 0);
         x.beat(0);
-        pass(x, 4, 0, 2);
+        checks.pass(x, 4, 0, 2);
         checks.states("and follows", x, 2, 0, 1, 0, 0, 0, 1, 31, 1, 1);
         Checks.loseAll(x);
         x.beat(0);
-        pass(x, 4, 0, 1);
-        pass(x, 4, 0, 2);
-        pass(x, 5, 1, 0);
-        pass(x, 5, 2, 0);
+        checks.pass(x, 4, 0, 1);
+        checks.pass(x, 4, 0, 2);
+        checks.pass(x, 5, 1, 0);
+        checks.pass(x, 5, 2, 0);
         x.compact(0);
         x.timer(3);
         checks.states("3 asks", x, 3, 1, 1, 0);
-        x.lose(find(x, 4, 0, 3));
+        x.lose(Checks.find(x, 4, 0, 3));
         x.beat(0);
-        pass(x, 6, 0, 3);
+        checks.pass(x, 6, 0, 3);
         checks.states("and follows", x, 3, 0, 1, 0, 1, 1, 1, 31, 1, 1);
     }
 
     private void firstEntryIsCutAway() {
         QuorumLog x = new QuorumLog(7);
-        elect(x, 0, 1);
+        checks.elect(x, 0, 1);
         checks.states("0 leads", x, 0, 3, 1, 0, 0, 0, 1);
-        elect(x, 1, 2);
+        checks.elect(x, 1, 2);
         checks.states("1 leads in term 2", x, 1, 3, 2, 1, 0, 0, 1);
         x.beat(1);
-        pass(x, 4, 1, 0);
+        checks.pass(x, 4, 1, 0);
         checks.states("0 follows", x, 0, 0, 2, -1, 0, 0, 1, 7, 1, 1);
         checks.same("the entry of term 2", x.entry(0, 1, 0), 2);
     }
@@ -794,44 +765,44 @@ public final class MessagesTest {
     private void installAtCommit() {
         QuorumLog x = Checks.led(7, 0);
         x.put(0, 0, 1);
-        pass(x, 4, 0, 2);
-        pass(x, 4, 0, 1);
-        x.lose(find(x, 5, 2, 0));
-        pass(x, 5, 1, 0);
+        checks.pass(x, 4, 0, 2);
+        checks.pass(x, 4, 0, 1);
+        x.lose(Checks.find(x, 5, 2, 0));
+        checks.pass(x, 5, 1, 0);
         x.beat(0);
-        pass(x, 4, 0, 2);
+        checks.pass(x, 4, 0, 2);
         Checks.loseAll(x);
         checks.states("2 has COMMIT 2", x, 2, 0, 1, 0, 2, 0, 2);
         x.compact(0);
         x.beat(0);
-        pass(x, 6, 0, 2);
+        checks.pass(x, 6, 0, 2);
         checks.states("its own snapshot stays", x, 2, 0, 1, 0, 2, 0, 2, 7, 1, 1);
-        lastMessage("yes in any case", x, 5, 2, 0, 1, 2, 1, 0);
+        checks.lastMessage("yes in any case", x, 5, 2, 0, 1, 2, 1, 0);
     }
 
     private void resultsOfOldTerms() {
         QuorumLog x = Checks.led(7, 0);
         x.put(0, 0, 1);
         x.put(0, 0, 2);
-        pass(x, 4, 0, 1);
-        pass(x, 4, 0, 1);
+        checks.pass(x, 4, 0, 1);
+        checks.pass(x, 4, 0, 1);
         Checks.loseTo(x, 2);
         checks.same("two results", x.waiting(), 2);
         x.crash(0);
         x.restart(0);
-        pass(x, 5, 1, 0);
+        checks.pass(x, 5, 1, 0);
         checks.states("one that led in this term", x, 0, 0, 1, 0, 0, 0, 3, 7, 0, 1);
         checks.same("sends nothing", x.waiting(), 1);
         x.crash(2);
         x.restart(2);
         x.timer(0);
-        pass(x, 0, 0, 2);
-        pass(x, 1, 2, 0);
-        pass(x, 2, 0, 2);
-        pass(x, 3, 2, 0);
+        checks.pass(x, 0, 0, 2);
+        checks.pass(x, 1, 2, 0);
+        checks.pass(x, 2, 0, 2);
+        checks.pass(x, 3, 2, 0);
         checks.states("0 leads in term 2", x, 0, 3, 2, 0, 0, 0, 4);
         int waiting = x.waiting();
-        pass(x, 5, 1, 0);
+        checks.pass(x, 5, 1, 0);
         checks.same("a result of term 1 does nothing", x.waiting(), waiting - 1);
     }
 
@@ -845,35 +816,35 @@ public final class MessagesTest {
         for (int value = 2; value < 5; value++) {
             x.put(0, 0, value);
         }
-        pass(x, 4, 0, 1);
-        pass(x, 5, 1, 0);
-        x.lose(find(x, 4, 0, 1));
-        x.lose(find(x, 4, 0, 1));
-        pass(x, 4, 0, 1);
-        pass(x, 5, 1, 0);
-        checks.states("0 and 1 have 4", x, 0, 3, 1, 0, 1, 0, 4);
+        checks.pass(x, 4, 0, 1);
+        checks.pass(x, 5, 1, 0);
+        x.lose(Checks.find(x, 4, 0, 1));
+        x.lose(Checks.find(x, 4, 0, 1));
+        checks.pass(x, 4, 0, 1);
+        checks.pass(x, 5, 1, 0);
         checks.same("1 has 4", x.state(1, 5), 4);
+        checks.same("it does not count", x.state(0, 3), 1);
         Checks.loseAll(x);
         for (int other = 2; other < 5; other++) {
             x.crash(other);
             x.restart(other);
         }
         electByTwo(x, 2, 3, 4);
-        pass(x, 4, 2, 0);
+        checks.pass(x, 4, 2, 0);
         checks.states("0 is cut away behind 1", x, 0, 0, 2, -1, 1, 0, 2);
         Checks.loseAll(x);
         electByTwo(x, 0, 3, 4);
         checks.states("0 leads again", x, 0, 3, 3, 0, 1, 0, 3);
-        pass(x, 4, 0, 3);
-        lastMessage("3 has but 1", x, 5, 3, 0, 3, 1, 0, 0);
-        pass(x, 5, 3, 0);
-        pass(x, 4, 0, 3);
-        pass(x, 5, 3, 0);
+        checks.pass(x, 4, 0, 3);
+        checks.lastMessage("3 has but 1", x, 5, 3, 0, 3, 1, 0, 0);
+        checks.pass(x, 5, 3, 0);
+        checks.pass(x, 4, 0, 3);
+        checks.pass(x, 5, 3, 0);
         checks.same("two of five have 3", x.state(0, 3), 1);
-        pass(x, 4, 0, 4);
-        pass(x, 5, 4, 0);
-        pass(x, 4, 0, 4);
-        pass(x, 5, 4, 0);
+        checks.pass(x, 4, 0, 4);
+        checks.pass(x, 5, 4, 0);
+        checks.pass(x, 4, 0, 4);
+        checks.pass(x, 5, 4, 0);
         checks.same("three of five", x.state(0, 3), 3);
         Checks.loseAll(x);
         int read = x.read(0, 0);
@@ -885,14 +856,14 @@ public final class MessagesTest {
 
     private void electByTwo(QuorumLog x, int one, int second, int third) {
         x.timer(one);
-        pass(x, 0, one, second);
-        pass(x, 0, one, third);
-        pass(x, 1, second, one);
-        pass(x, 1, third, one);
-        pass(x, 2, one, second);
-        pass(x, 2, one, third);
-        pass(x, 3, second, one);
-        pass(x, 3, third, one);
+        checks.pass(x, 0, one, second);
+        checks.pass(x, 0, one, third);
+        checks.pass(x, 1, second, one);
+        checks.pass(x, 1, third, one);
+        checks.pass(x, 2, one, second);
+        checks.pass(x, 2, one, third);
+        checks.pass(x, 3, second, one);
+        checks.pass(x, 3, third, one);
         checks.same("elected", x.state(one, 0), 3);
     }
 

@@ -1,27 +1,11 @@
 /** The promises 1 to 18, one method each: ordinary inputs, the edges that the document names, wrong inputs. */
 public final class PromiseTest {
     private static final int[] WRONG = {-1, 5, 6, 32, Integer.MIN_VALUE, Integer.MAX_VALUE};
-    private static final Class<IllegalArgumentException> ARGUMENT = IllegalArgumentException.class;
-    private static final Class<IllegalStateException> STATE = IllegalStateException.class;
-    private static final Class<UnsupportedOperationException> UNSUPPORTED = UnsupportedOperationException.class;
 
     private final Checks checks;
 
     private PromiseTest(Checks checks) {
         this.checks = checks;
-    }
-
-    /** Leader 0 of two cuts its log, server 1 does not: server 1 has entries up to an index behind snapshot 0. */
-    private static QuorumLog longLog(int last) {
-        QuorumLog x = Checks.led(3, 0);
-        for (int index = 2; index <= last; index++) {
-            if (x.state(0, 5) - x.state(0, 4) >= 24) {
-                x.compact(0);
-            }
-            x.put(0, index % 4, index);
-            Checks.deliverAll(x);
-        }
-        return x;
     }
 
     /** Server 1 of two leads in term 2 and has not heard of its NOTHING; both have snapshots of term 1. */
@@ -126,17 +110,15 @@ public final class PromiseTest {
     }
 
     private void timerWithLongLogs() {
-        QuorumLog x = longLog(39);
+        QuorumLog x = Checks.longLog(39);
         checks.states("39 entries", x, 1, 0, 1, 0, 38, 0, 39);
         checks.yes("timer with 39 entries", x.timer(1));
-        QuorumLog y = longLog(40);
+        QuorumLog y = Checks.longLog(40);
         checks.same("40 entries", y.state(1, 5) - y.state(1, 4), 40);
-        String before = Checks.seen(y);
         checks.no("timer with 40 entries", y.timer(1));
-        checks.yes("refused, so all is as it was", before.equals(Checks.seen(y)));
         y.compact(1);
         checks.yes("timer behind a cut", y.timer(1));
-        QuorumLog z = longLog(41);
+        QuorumLog z = Checks.longLog(41);
         checks.no("timer with 41 entries", z.timer(1));
     }
 
@@ -168,16 +150,16 @@ public final class PromiseTest {
     private void promise4Put() {
         QuorumLog x = new QuorumLog(7);
         for (int server : WRONG) {
-            checks.refuses("put of no server", ARGUMENT, x, () -> x.put(server, 0, 1));
+            checks.throwing("put of no server", Checks.ARGUMENT, () -> x.put(server, 0, 1));
         }
-        checks.refuses("put of no key, no leader", ARGUMENT, x, () -> x.put(0, 4, 1));
-        checks.refuses("put of no key, no leader", ARGUMENT, x, () -> x.put(0, -1, 1));
-        checks.refuses("put of a follower", STATE, x, () -> x.put(0, 0, 1));
+        checks.throwing("put of no key, no leader", Checks.ARGUMENT, () -> x.put(0, 4, 1));
+        checks.throwing("put of no key, no leader", Checks.ARGUMENT, () -> x.put(0, -1, 1));
+        checks.throwing("put of a follower", Checks.STATE, () -> x.put(0, 0, 1));
         x.timer(0);
-        checks.refuses("put of one that asks", STATE, x, () -> x.put(0, 0, 1));
+        checks.throwing("put of one that asks", Checks.STATE, () -> x.put(0, 0, 1));
         Checks.deliver(x, 3);
         checks.same("candidate", x.state(0, 0), 2);
-        checks.refuses("put of a candidate", STATE, x, () -> x.put(0, 0, 1));
+        checks.throwing("put of a candidate", Checks.STATE, () -> x.put(0, 0, 1));
         Checks.deliverAll(x);
         checks.same("put", x.put(0, 3, Integer.MIN_VALUE), 2);
         checks.same("put", x.put(0, 0, 0), 3);
@@ -189,11 +171,11 @@ public final class PromiseTest {
         checks.messages("sent at once, with the one before", x, 2, 4, 0, 1, 1, 1, 2, 0);
         Checks.deliverAll(x);
         checks.same("it counts", x.stored(0, 3), Integer.MIN_VALUE);
-        checks.refuses("put of another follower", STATE, x, () -> x.put(1, 0, 1));
-        checks.refuses("put of a leader, no key", ARGUMENT, x, () -> x.put(0, 4, 1));
+        checks.throwing("put of another follower", Checks.STATE, () -> x.put(1, 0, 1));
+        checks.throwing("put of a leader, no key", Checks.ARGUMENT, () -> x.put(0, 4, 1));
         x.crash(0);
-        checks.refuses("put of one that is down, no key", ARGUMENT, x, () -> x.put(0, Integer.MAX_VALUE, 1));
-        checks.refuses("put of one that is down", STATE, x, () -> x.put(0, 0, 1));
+        checks.throwing("put of one that is down, no key", Checks.ARGUMENT, () -> x.put(0, Integer.MAX_VALUE, 1));
+        checks.throwing("put of one that is down", Checks.STATE, () -> x.put(0, 0, 1));
         putToLongLogs();
     }
 
@@ -202,14 +184,14 @@ public final class PromiseTest {
         for (int index = 2; index <= 24; index++) {
             checks.same("put", x.put(0, 1, index), index);
         }
-        checks.refuses("put to 24 entries", UNSUPPORTED, x, () -> x.put(0, 1, 1));
-        checks.refuses("put to 24 entries, no key", ARGUMENT, x, () -> x.put(0, 9, 1));
+        checks.throwing("put to 24 entries", Checks.UNSUPPORTED, () -> x.put(0, 1, 1));
+        checks.throwing("put to 24 entries, no key", Checks.ARGUMENT, () -> x.put(0, 9, 1));
         x.crash(0);
         x.restart(0);
-        checks.refuses("24 entries, no leader", STATE, x, () -> x.put(0, 1, 1));
+        checks.throwing("24 entries, no leader", Checks.STATE, () -> x.put(0, 1, 1));
         x.timer(0);
         checks.same("a NOTHING has room", x.state(0, 5), 25);
-        checks.refuses("put to 25 entries", UNSUPPORTED, x, () -> x.put(0, 1, 1));
+        checks.throwing("put to 25 entries", Checks.UNSUPPORTED, () -> x.put(0, 1, 1));
         x.compact(0);
         checks.same("put behind a cut", x.put(0, 1, 7), 26);
         checks.same("stored", x.stored(0, 1), 7);
@@ -218,21 +200,21 @@ public final class PromiseTest {
     private void promise5Change() {
         QuorumLog x = new QuorumLog(6);
         for (int wrong : WRONG) {
-            checks.refuses("change of no server", ARGUMENT, x, () -> x.change(wrong, 0, true));
-            checks.refuses("change of no one", ARGUMENT, x, () -> x.change(1, wrong, true));
-            checks.refuses("change of no one", ARGUMENT, x, () -> x.change(1, wrong, false));
+            checks.throwing("change of no server", Checks.ARGUMENT, () -> x.change(wrong, 0, true));
+            checks.throwing("change of no one", Checks.ARGUMENT, () -> x.change(1, wrong, true));
+            checks.throwing("change of no one", Checks.ARGUMENT, () -> x.change(1, wrong, false));
         }
-        checks.refuses("a member already", ARGUMENT, x, () -> x.change(1, 2, true));
-        checks.refuses("none", ARGUMENT, x, () -> x.change(1, 0, false));
-        checks.refuses("of a follower", STATE, x, () -> x.change(1, 0, true));
-        checks.refuses("of a follower", STATE, x, () -> x.change(1, 2, false));
+        checks.throwing("a member already", Checks.ARGUMENT, () -> x.change(1, 2, true));
+        checks.throwing("none", Checks.ARGUMENT, () -> x.change(1, 0, false));
+        checks.throwing("of a follower", Checks.STATE, () -> x.change(1, 0, true));
+        checks.throwing("of a follower", Checks.STATE, () -> x.change(1, 2, false));
         x.crash(1);
-        checks.refuses("down, a member already", ARGUMENT, x, () -> x.change(1, 1, true));
-        checks.refuses("down", STATE, x, () -> x.change(1, 0, true));
+        checks.throwing("down, a member already", Checks.ARGUMENT, () -> x.change(1, 1, true));
+        checks.throwing("down", Checks.STATE, () -> x.change(1, 0, true));
         QuorumLog one = new QuorumLog(4);
-        checks.refuses("the only one, of a follower", ARGUMENT, one, () -> one.change(2, 2, false));
+        checks.throwing("the only one, of a follower", Checks.ARGUMENT, () -> one.change(2, 2, false));
         one.timer(2);
-        checks.refuses("the only one", ARGUMENT, one, () -> one.change(2, 2, false));
+        checks.throwing("the only one", Checks.ARGUMENT, () -> one.change(2, 2, false));
         changeJoins();
         changeLeaves();
         changeUnsupported();
@@ -249,9 +231,9 @@ public final class PromiseTest {
         checks.same("sent to the new one too", x.waiting(), 2);
         checks.messages("to 1", x, 0, 4, 0, 1, 1, 1, 1, 0);
         checks.messages("to 4 from NEXT on", x, 1, 4, 0, 4, 1, 0, 2, 0);
-        checks.refuses("a change is open", UNSUPPORTED, x, () -> x.change(0, 3, true));
-        checks.refuses("a change is open", UNSUPPORTED, x, () -> x.change(0, 1, false));
-        checks.refuses("a change is open, a member already", ARGUMENT, x, () -> x.change(0, 4, true));
+        checks.throwing("a change is open", Checks.UNSUPPORTED, () -> x.change(0, 3, true));
+        checks.throwing("a change is open", Checks.UNSUPPORTED, () -> x.change(0, 1, false));
+        checks.throwing("a change is open, a member already", Checks.ARGUMENT, () -> x.change(0, 4, true));
         Checks.deliverAll(x);
         checks.same("counts", x.state(0, 3), 2);
         checks.same("next change", x.change(0, 3, true), 3);
@@ -285,7 +267,7 @@ public final class PromiseTest {
         checks.states("both, so it is a follower", y, 0, 0, 1, 0, 2, 0, 2, 6);
         checks.same("its read failed", y.outcome(read), 2);
         checks.no("its timer: no member", y.timer(0));
-        checks.throwing("put of one that left", STATE, () -> y.put(0, 0, 0));
+        checks.throwing("put of one that left", Checks.STATE, () -> y.put(0, 0, 0));
 
         QuorumLog z = Checks.led(7, 0);
         z.put(0, 3, 1);
@@ -302,7 +284,7 @@ public final class PromiseTest {
     private void changeUnsupported() {
         QuorumLog x = openTerm();
         checks.states("leads in an open term", x, 1, 3, 2, 1, 1, 1, 2, 3);
-        checks.refuses("the snapshot at COMMIT is of another term", UNSUPPORTED, x, () -> x.change(1, 4, true));
+        checks.throwing("the snapshot at COMMIT is of another term", Checks.UNSUPPORTED, () -> x.change(1, 4, true));
         Checks.deliverAll(x);
         checks.same("COMMIT", x.state(1, 3), 2);
         x.compact(1);
@@ -315,7 +297,7 @@ public final class PromiseTest {
         checks.same("the 24th entry", y.change(0, 1, true), 24);
         Checks.deliverAll(y);
         checks.same("counts", y.state(0, 3), 24);
-        checks.refuses("change of 24 entries", UNSUPPORTED, y, () -> y.change(0, 2, true));
+        checks.throwing("change of 24 entries", Checks.UNSUPPORTED, () -> y.change(0, 2, true));
         y.compact(0);
         checks.same("change behind a cut", y.change(0, 2, true), 25);
     }
@@ -323,15 +305,15 @@ public final class PromiseTest {
     private void promise6Read() {
         QuorumLog x = new QuorumLog(7);
         for (int server : WRONG) {
-            checks.refuses("read of no server", ARGUMENT, x, () -> x.read(server, 0));
+            checks.throwing("read of no server", Checks.ARGUMENT, () -> x.read(server, 0));
         }
-        checks.refuses("read of no key", ARGUMENT, x, () -> x.read(0, 4));
-        checks.refuses("read of no key", ARGUMENT, x, () -> x.read(0, -1));
-        checks.refuses("read of a follower", STATE, x, () -> x.read(0, 0));
+        checks.throwing("read of no key", Checks.ARGUMENT, () -> x.read(0, 4));
+        checks.throwing("read of no key", Checks.ARGUMENT, () -> x.read(0, -1));
+        checks.throwing("read of a follower", Checks.STATE, () -> x.read(0, 0));
         x.timer(0);
         Checks.deliver(x, 7);
         checks.states("leads", x, 0, 3, 1, 0, 0);
-        checks.refuses("read in an open term", UNSUPPORTED, x, () -> x.read(0, 0));
+        checks.throwing("read in an open term", Checks.UNSUPPORTED, () -> x.read(0, 0));
         Checks.deliverAll(x);
         x.put(0, 1, 11);
         Checks.deliverAll(x);
@@ -349,8 +331,8 @@ public final class PromiseTest {
         checks.same("answered", x.outcome(1), 1);
         checks.same("its value", x.value(1), 0);
         x.crash(0);
-        checks.refuses("read of one that is down", STATE, x, () -> x.read(0, 0));
-        checks.refuses("read of one that is down, no key", ARGUMENT, x, () -> x.read(0, 5));
+        checks.throwing("read of one that is down", Checks.STATE, () -> x.read(0, 0));
+        checks.throwing("read of one that is down, no key", Checks.ARGUMENT, () -> x.read(0, 5));
         readMany();
         readLater();
         readOpen();
@@ -361,8 +343,8 @@ public final class PromiseTest {
         for (int number = 0; number < 4; number++) {
             checks.same("read", x.read(0, 0), number);
         }
-        checks.refuses("a fifth one", UNSUPPORTED, x, () -> x.read(0, 0));
-        checks.refuses("a fifth one, no key", ARGUMENT, x, () -> x.read(0, 4));
+        checks.throwing("a fifth one", Checks.UNSUPPORTED, () -> x.read(0, 0));
+        checks.throwing("a fifth one, no key", Checks.ARGUMENT, () -> x.read(0, 4));
         x.deliver(0);
         x.deliver(3);
         checks.same("the first is answered", x.outcome(0), 1);
@@ -375,7 +357,7 @@ public final class PromiseTest {
             checks.same("read", alone.read(0, 2), number);
             checks.same("answered at once", alone.outcome(number), 1);
         }
-        checks.refuses("a 61st one", UNSUPPORTED, alone, () -> alone.read(0, 2));
+        checks.throwing("a 61st one", Checks.UNSUPPORTED, () -> alone.read(0, 2));
         for (int number = 0; number < 60; number++) {
             checks.same("value", alone.value(number), number);
         }
@@ -409,7 +391,7 @@ public final class PromiseTest {
 
     private void readOpen() {
         QuorumLog x = openTerm();
-        checks.refuses("the snapshot at COMMIT is of another term", UNSUPPORTED, x, () -> x.read(1, 0));
+        checks.throwing("the snapshot at COMMIT is of another term", Checks.UNSUPPORTED, () -> x.read(1, 0));
         Checks.deliverAll(x);
         checks.same("no read was counted", x.read(1, 0), 0);
 

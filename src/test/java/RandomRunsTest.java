@@ -148,6 +148,7 @@ public final class RandomRunsTest {
         }
     }
 
+    /** These looks go beyond the 512 calls of an object; as the program counts no calls, it answers them too. */
     private void lookAtAll() {
         same("waiting()", x.waiting(), model.waiting());
         for (int k = -1; k <= x.waiting(); k++) {
