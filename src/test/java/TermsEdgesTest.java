@@ -136,6 +136,56 @@ public final class TermsEdgesTest {
         checks.same("nor does it come later", x.waiting(), 0);
     }
 
+    /** "The LAST index is that of the last entry of the log, or of the snapshot; its term likewise." */
+    private void lastIndexOfEmptyLogs() {
+        QuorumLog x = Checks.led(7, 0);
+        x.beat(0);
+        Checks.deliverAll(x);
+        x.compact(1);
+        checks.states("an empty log", x, 1, 0, 1, 0, 1, 1, 1);
+        x.timer(1);
+        checks.messages("the snapshot's index", x, 0, 0, 1, 0, 2, 1, 0, 0);
+        checks.pass(x, 0, 1, 0);
+        checks.lastMessage("the snapshot's term: yes", x, 1, 0, 1, 2, 0, 1, 0);
+        x.timer(2);
+        checks.pass(x, 0, 2, 1);
+        checks.lastMessage("a log like the snapshot: yes", x, 1, 1, 2, 2, 0, 1, 0);
+
+        QuorumLog y = new QuorumLog(7);
+        y.crash(2);
+        y.timer(0);
+        Checks.deliverAll(y);
+        y.compact(0);
+        checks.states("an empty log", y, 0, 3, 1, 0, 1, 1, 1);
+        y.restart(2);
+        checks.stand(y, 1, 0);
+        checks.pass(y, 2, 1, 2);
+        Checks.loseAll(y);
+        y.timer(2);
+        checks.messages("nothing at all, for term 3", y, 0, 0, 2, 0, 3, 0, 0, 0);
+        checks.pass(y, 0, 2, 0);
+        checks.lastMessage("before the snapshot: no", y, 1, 0, 2, 1, 0, 0, 0);
+    }
+
+    /** "The CONFIGURATION of a server: the latest MEMBERS of its log, or else those of its snapshot." */
+    private void configurationsThatAreCutAway() {
+        QuorumLog x = Checks.led(7, 0);
+        x.change(0, 3, true);
+        Checks.loseAll(x);
+        checks.same("its latest MEMBERS, though they do not count yet", x.state(0, 6), 15);
+        Checks.forget(x, 1, 2);
+        checks.elect(x, 1, 2);
+        x.beat(1);
+        checks.pass(x, 4, 1, 0);
+        checks.states("cut away: its snapshot's", x, 0, 0, 2, -1, 1, 0, 2, 7, 1, 1);
+        checks.copy(x, 1, 2);
+        x.change(1, 4, true);
+        Checks.deliverAll(x);
+        x.change(1, 3, true);
+        checks.same("the latest", x.state(1, 6), 31);
+        checks.same("the one before", x.state(0, 6), 23);
+    }
+
     /** "to all servers of the sender's configuration but itself, by number" */
     private void sentToAllButItself() {
         for (int members = 1; members < 32; members++) {
@@ -1143,6 +1193,8 @@ public final class TermsEdgesTest {
         test.callsWithFullRows();
         test.deliveriesFromFullRows();
         test.comesToOneThatIsDown();
+        test.lastIndexOfEmptyLogs();
+        test.configurationsThatAreCutAway();
         test.sentToAllButItself();
         test.mostAreMoreThanHalf();
         test.noneOneOrTwoEntries();
