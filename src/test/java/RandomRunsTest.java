@@ -4,12 +4,16 @@ import java.util.Random;
 import java.util.TreeMap;
 
 /**
- * Runs of calls drawn from numbered seeds, the same every time: the program and PlainModel answer alike,
+ * Runs of 512 calls drawn from numbered seeds, the same every time: the program and PlainModel answer alike,
  * no two servers lead in one term, and an entry that counts is never another one later.
  */
 public final class RandomRunsTest {
-    private static final int RUNS = 3000;
+    private static final int RUNS = 24000;
+    /** The document leaves free what an object answers behind these, so looks must be among them. */
     private static final int CALLS = 512;
+    private static final int LOOKS_AT_THE_END = 48;
+    /** How many in a hundred calls are looks: with many, short runs are seen well; with few, long ones are made. */
+    private static final int[] LOOKS = {3, 20, 50, 75};
     /**
      * How often each call of step() is drawn: some of all, many elections, many reads, and long logs
      * (the leader alone compacts, so that those who follow come to their limits).
@@ -33,11 +37,13 @@ public final class RandomRunsTest {
 
     private final Random random;
     private final int[] weights = new int[12];
+    private final int looks;
     private final QuorumLog x;
     private final PlainModel model;
     private final Map<Integer, Integer> leaderOfTerm = new HashMap<>();
-    private final Map<Integer, String> counted = new HashMap<>();
+    private final Map<Integer, PlainModel.Entry> counted = new HashMap<>();
     private String call = "";
+    private int calls;
 
     private RandomRunsTest(long seed) {
         // Seeds that follow each other would begin with nearly the same draws.
@@ -52,6 +58,7 @@ public final class RandomRunsTest {
         if (style == LONG_LOGS) {
             members = 3;
         }
+        looks = style == LONG_LOGS ? LOOKS[0] : LOOKS[random.nextInt(LOOKS.length)];
         x = new QuorumLog(members);
         model = new PlainModel(members);
     }
@@ -63,7 +70,7 @@ public final class RandomRunsTest {
     private int leaderMostly() {
         int from = random.nextInt(5);
         for (int i = 0; i < 5 && random.nextInt(12) > 0; i++) {
-            if (x.state((from + i) % 5, 0) == 3) {
+            if (model.state((from + i) % 5, 0) == 3) {
                 return (from + i) % 5;
             }
         }
@@ -75,7 +82,7 @@ public final class RandomRunsTest {
     }
 
     private int anyPlace() {
-        int many = x.waiting();
+        int many = model.waiting();
         if (many == 0 || random.nextInt(50) == 0) {
             return random.nextInt(60) - 5;
         }
@@ -111,6 +118,7 @@ public final class RandomRunsTest {
 
     private void both(String told, Checks.Call ours, Checks.Call theirs) {
         call = told;
+        calls++;
         Object got = answer(ours);
         Object due = answer(theirs);
         if (!got.equals(due)) {
@@ -143,52 +151,49 @@ public final class RandomRunsTest {
     }
 
     private void same(String told, int got, int due) {
+        calls++;
         if (got != due) {
             throw new AssertionError(told + " answered " + got + ", due is " + due + " (behind " + call + ")");
         }
     }
 
-    /** These looks go beyond the 512 calls of an object; as the program counts no calls, it answers them too. */
-    private void lookAtAll() {
-        same("waiting()", x.waiting(), model.waiting());
-        for (int k = -1; k <= x.waiting(); k++) {
-            for (int what = -1; what < 8; what++) {
-                same("message(" + k + ", " + what + ")", x.message(k, what), model.message(k, what));
-            }
-        }
-        for (int s = -1; s < 6; s++) {
-            for (int what = -1; what < 10; what++) {
-                same("state(" + s + ", " + what + ")", x.state(s, what), model.state(s, what));
-            }
-            for (int key = -1; key < 5; key++) {
-                same("stored(" + s + ", " + key + ")", x.stored(s, key), model.stored(s, key));
-            }
-            for (int index = x.state(s, 4) - 1; index <= x.state(s, 5) + 1; index++) {
-                for (int what = -1; what < 5; what++) {
-                    same("entry(" + s + ", " + index + ", " + what + ")",
-                            x.entry(s, index, what), model.entry(s, index, what));
-                }
-            }
-        }
-        for (int read = -1; read <= model.reads.size(); read++) {
-            same("outcome(" + read + ")", x.outcome(read), model.outcome(read));
-            same("value(" + read + ")", x.value(read), model.value(read));
+    /** One of from - 1 .. to + 1: also the nearest ones that there are not. */
+    private int about(int from, int to) {
+        return from - 1 + random.nextInt(to - from + 3);
+    }
+
+    private void look() {
+        int s = about(0, 4);
+        int k = about(0, model.waiting() - 1);
+        int index = about(model.state(s, 4), model.state(s, 5));
+        int key = about(0, 3);
+        int read = about(0, model.reads.size() - 1);
+        int what = random.nextInt(20) == 0 ? about(0, 8) : random.nextInt(9);
+        switch (random.nextInt(12)) {
+            case 0 -> same("waiting()", x.waiting(), model.waiting());
+            case 1, 2, 3 -> same("message(" + k + ", " + what + ")", x.message(k, what), model.message(k, what));
+            case 4, 5, 6 -> same("state(" + s + ", " + what + ")", x.state(s, what), model.state(s, what));
+            case 7, 8 -> same("entry(" + s + ", " + index + ", " + what / 2 + ")",
+                    x.entry(s, index, what / 2), model.entry(s, index, what / 2));
+            case 9 -> same("stored(" + s + ", " + key + ")", x.stored(s, key), model.stored(s, key));
+            case 10 -> same("outcome(" + read + ")", x.outcome(read), model.outcome(read));
+            default -> same("value(" + read + ")", x.value(read), model.value(read));
         }
     }
 
+    /** Looks at the model: what the program answers is the same. */
     private void lookAtSafety() {
         for (int s = 0; s < 5; s++) {
-            if (x.state(s, 0) == 3) {
-                Integer other = leaderOfTerm.putIfAbsent(x.state(s, 1), s);
+            if (model.state(s, 0) == 3) {
+                Integer other = leaderOfTerm.putIfAbsent(model.state(s, 1), s);
                 if (other != null && other != s) {
-                    throw new AssertionError("two leaders in term " + x.state(s, 1) + " (behind " + call + ")");
+                    throw new AssertionError("two leaders in term " + model.state(s, 1) + " (behind " + call + ")");
                 }
             }
-            for (int index = x.state(s, 4) + 1; index <= x.state(s, 3); index++) {
-                String told = x.entry(s, index, 0) + " " + x.entry(s, index, 1) + " " + x.entry(s, index, 2)
-                        + " " + x.entry(s, index, 3);
-                String other = counted.putIfAbsent(index, told);
-                if (other != null && !other.equals(told)) {
+            for (int index = model.state(s, 4) + 1; index <= model.state(s, 3); index++) {
+                PlainModel.Entry entry = model.servers[s].log.get(index);
+                PlainModel.Entry other = counted.putIfAbsent(index, entry);
+                if (other != null && !other.equals(entry)) {
                     throw new AssertionError("two entries count at " + index + " (behind " + call + ")");
                 }
             }
@@ -196,11 +201,14 @@ public final class RandomRunsTest {
     }
 
     private void run() {
-        for (int i = 0; i < CALLS; i++) {
-            step();
-            lookAtSafety();
-            if (i % 16 == 0 || i == CALLS - 1) {
-                lookAtAll();
+        while (calls < CALLS) {
+            if (calls >= CALLS - LOOKS_AT_THE_END || random.nextInt(100) < looks) {
+                look();
+            } else {
+                step();
+            }
+            if (calls % 8 == 0) {
+                lookAtSafety();
             }
         }
     }
