@@ -637,7 +637,8 @@ public final class QuorumLog {
 
         /** The snapshot becomes this log's; entries behind it stay only if the log led up to it. */
         void beginBehind(Snapshot taken) {
-            int left = termAt(taken.index) == taken.term ? last() - taken.index : 0;
+            int ownTerm = termAt(taken.index);
+            int left = ownTerm != NONE && ownTerm == taken.term ? last() - taken.index : 0;
             int gone = count - left;
             for (int place = 0; place < left; place++) {
                 entries[place] = entries[place + gone];
